@@ -64,6 +64,16 @@ final class SetupTest {
     }
 
     private static void load() {
+        cut("radio;price 99999;", 16, SYNTAX, 16);
+        cut("radio;price 9999;", 17, 0, -1);
+        cut("radiox", 5, SYNTAX, 5);
+        cut("radio;x", 6, 0, -1);
+        cut("radio;", 5, SYNTAX, 5);
+        String full = "radio;" + " ".repeat(781) + "price 9999999";
+        cut(full, 800, RANGE, 793);
+        cut(full.replace("9999999", "1*2+3/4"), 800, SYNTAX, 800);
+        cut(full.replace("9999999", "seconds"), 800, SYNTAX, 800);
+        cut(full.replace("9999999", "seconds").replace("  price", "price") + ";", 800, 0, -1);
         AdBreaks radio = Check.loaded("radio;break 3 4 50 6;break 1 2 30 4;sponsor 7 8;ban 1 2;price 5;");
         Check.same("3 breaks", radio.breaks(), 2);
         Check.same("3 the earlier day first", radio.breakOf(0, 0), 1);
@@ -98,6 +108,15 @@ final class SetupTest {
 
         Check.load(radio, "radio;break 0 0 10 100;sponsor 0 1;");
         Check.same("3 the price statement is gone too", radio.price(0, 10, 0), 100);
+    }
+
+    /** Only the first bytes of the text are read. */
+    private static void cut(String text, int length, int due, int offset) {
+        AdBreaks radio = new AdBreaks();
+        Check.append(radio, text);
+        String told = "\"" + text.replaceAll(" +", " ") + "\" up to " + length;
+        Check.same("3 load " + told, radio.load(length), due);
+        Check.same("4 errorOffset " + told, radio.errorOffset(), offset);
     }
 
     private static void errorOffset() {
@@ -147,6 +166,8 @@ final class SetupTest {
         bad("radio  ", SYNTAX, 7);
         bad("radioradio;", SYNTAX, 0);
         bad("Radio;", SYNTAX, 0);
+        bad("xadio;", SYNTAX, 0);
+        bad("radioz;", SYNTAX, 0);
         bad("rad io;", SYNTAX, 0);
         bad(" radios;", SYNTAX, 1);
         bad("radio;;", SYNTAX, 6);
