@@ -356,11 +356,15 @@ public final class AdBreaks {
         void copyFrom(SpotRow other) {
             count = Math.min(other.count, sponsors.length);
             for (int place = 0; place < count; place++) {
-                sponsors[place] = other.sponsors[place];
-                seconds[place] = other.seconds[place];
-                prices[place] = other.prices[place];
-                leastAudiences[place] = other.leastAudiences[place];
+                copySpot(other, place, place);
             }
+        }
+
+        private void copySpot(SpotRow other, int from, int to) {
+            sponsors[to] = other.sponsors[from];
+            seconds[to] = other.seconds[from];
+            prices[to] = other.prices[from];
+            leastAudiences[to] = other.leastAudiences[from];
         }
 
         /** Puts in a spot that stands in another row. */
@@ -377,7 +381,7 @@ public final class AdBreaks {
             }
             count++;
             for (int to = count - 1; to > place; to--) {
-                copyWithin(to - 1, to);
+                copySpot(this, to - 1, to);
             }
             sponsors[place] = sponsor;
             seconds[place] = length;
@@ -390,16 +394,9 @@ public final class AdBreaks {
                 return;
             }
             for (int to = place; to < count - 1; to++) {
-                copyWithin(to + 1, to);
+                copySpot(this, to + 1, to);
             }
             count--;
-        }
-
-        private void copyWithin(int from, int to) {
-            sponsors[to] = sponsors[from];
-            seconds[to] = seconds[from];
-            prices[to] = prices[from];
-            leastAudiences[to] = leastAudiences[from];
         }
 
         /** Moves the spot at the first place forward to the second one, which is not behind it. */
