@@ -70,7 +70,7 @@ public final class AdBreaks {
         return filled;
     }
 
-    public int load(int length) {
+    public int load(int length) throws IllegalArgumentException {
         if (length < 0 || length > filled) {
             throw new IllegalArgumentException("length");
         }
@@ -98,7 +98,7 @@ public final class AdBreaks {
         return history.latest().sponsorCount;
     }
 
-    public int breakOf(int index, int what) {
+    public int breakOf(int index, int what) throws IndexOutOfBoundsException, IllegalArgumentException {
         Plan plan = history.latest();
         checkBreak(plan, index);
         checkRange(what, 0, 6);
@@ -114,7 +114,7 @@ public final class AdBreaks {
         }
     }
 
-    public int spot(int index, int place, int what) {
+    public int spot(int index, int place, int what) throws IndexOutOfBoundsException, NoSuchElementException, IllegalArgumentException {
         Plan plan = history.latest();
         checkBreak(plan, index);
         SpotRow row = plan.list[index].row;
@@ -123,7 +123,7 @@ public final class AdBreaks {
         return row.tell(place, what);
     }
 
-    public int sponsor(int sponsor, int what) {
+    public int sponsor(int sponsor, int what) throws IndexOutOfBoundsException, IllegalArgumentException {
         Plan plan = history.latest();
         checkSponsor(plan, sponsor);
         checkRange(what, 0, 4);
@@ -136,39 +136,39 @@ public final class AdBreaks {
         }
     }
 
-    public boolean isBanned(int category, int other) {
+    public boolean isBanned(int category, int other) throws IllegalArgumentException {
         checkRange(category, 0, LAST_CATEGORY);
         checkRange(other, 0, LAST_CATEGORY);
         return history.latest().hasBan(category, other);
     }
 
-    public int spotsOn(int sponsor, int day) {
+    public int spotsOn(int sponsor, int day) throws IndexOutOfBoundsException, IllegalArgumentException {
         Plan plan = history.latest();
         checkSponsor(plan, sponsor);
         checkRange(day, 0, LAST_DAY);
         return plan.spotsOfDay(sponsor, day);
     }
 
-    public int reason(int sponsor, int seconds, int index) {
+    public int reason(int sponsor, int seconds, int index) throws IndexOutOfBoundsException, IllegalArgumentException {
         Plan plan = history.latest();
         checkSpotIn(plan, sponsor, seconds, index);
         return plan.refusal(sponsor, seconds, index);
     }
 
-    public int price(int sponsor, int seconds, int index) {
+    public int price(int sponsor, int seconds, int index) throws IndexOutOfBoundsException, IllegalArgumentException {
         Plan plan = history.latest();
         checkSpotIn(plan, sponsor, seconds, index);
         return plan.priceOf(sponsor, seconds, index);
     }
 
-    public int cheapest(int sponsor, int seconds) {
+    public int cheapest(int sponsor, int seconds) throws IndexOutOfBoundsException, IllegalArgumentException {
         Plan plan = history.latest();
         checkSponsor(plan, sponsor);
         checkRange(seconds, SHORTEST_SPOT, LONGEST_SPOT);
         return plan.cheapestBreak(sponsor, seconds);
     }
 
-    public int widest(int sponsor, int seconds) {
+    public int widest(int sponsor, int seconds) throws IndexOutOfBoundsException, IllegalArgumentException {
         Plan plan = history.latest();
         checkSponsor(plan, sponsor);
         checkRange(seconds, SHORTEST_SPOT, LONGEST_SPOT);
@@ -183,20 +183,20 @@ public final class AdBreaks {
         return history.latest().owedRow.count;
     }
 
-    public int owedSpot(int index, int what) {
+    public int owedSpot(int index, int what) throws NoSuchElementException, IllegalArgumentException {
         SpotRow row = history.latest().owedRow;
         checkPlace(row, index);
         checkRange(what, 0, 3);
         return row.tell(index, what);
     }
 
-    public int arrangements(int set) {
+    public int arrangements(int set) throws IllegalArgumentException {
         Plan plan = history.latest();
         checkSet(plan, set);
         return arranger.countOrders(plan, set);
     }
 
-    public int arranged(int set, int place) {
+    public int arranged(int set, int place) throws IllegalArgumentException, IndexOutOfBoundsException {
         Plan plan = history.latest();
         checkSet(plan, set);
         if (place < 0 || place >= Integer.bitCount(set)) {
@@ -205,12 +205,12 @@ public final class AdBreaks {
         return arranger.findFirst(plan, set) ? arranger.order[place] : -1;
     }
 
-    public int book(int sponsor, int seconds, int index) {
+    public int book(int sponsor, int seconds, int index) throws IndexOutOfBoundsException, IllegalArgumentException {
         checkSpotIn(history.latest(), sponsor, seconds, index);
         return history.beginChange().bookSpot(sponsor, seconds, index);
     }
 
-    public int bookAnyhow(int sponsor, int seconds, int index) {
+    public int bookAnyhow(int sponsor, int seconds, int index) throws IndexOutOfBoundsException, IllegalArgumentException {
         checkSpotIn(history.latest(), sponsor, seconds, index);
         Plan plan = history.beginChange();
         if (plan.refusal(sponsor, seconds, index) != NO_PLACE) {
@@ -224,7 +224,7 @@ public final class AdBreaks {
         return plan.list[index].row.placeOf(sponsor);
     }
 
-    public int remove(int index, int place) {
+    public int remove(int index, int place) throws IndexOutOfBoundsException, NoSuchElementException, IllegalStateException {
         Plan plan = history.latest();
         checkBreak(plan, index);
         checkPlace(plan.list[index].row, place);
@@ -234,7 +234,7 @@ public final class AdBreaks {
         return history.beginChange().takeOut(index, place);
     }
 
-    public int air() {
+    public int air() throws IllegalStateException {
         int index = history.latest().earliestOpen();
         if (index < 0) {
             throw new IllegalStateException("no break is open");
@@ -244,7 +244,7 @@ public final class AdBreaks {
         return earliest.row.count;
     }
 
-    public int cancel(int index) {
+    public int cancel(int index) throws IndexOutOfBoundsException, IllegalStateException {
         Plan plan = history.latest();
         checkBreak(plan, index);
         if (plan.list[index].state != OPEN) {
@@ -259,14 +259,14 @@ public final class AdBreaks {
         return history.beginChange().settleOwed();
     }
 
-    public int campaign(int sponsor, int seconds, int most) {
+    public int campaign(int sponsor, int seconds, int most) throws IndexOutOfBoundsException, IllegalArgumentException {
         checkSponsor(history.latest(), sponsor);
         checkRange(seconds, SHORTEST_SPOT, LONGEST_SPOT);
         checkRange(most, 1, MOST_TIMES);
         return history.beginChange().bookCheapest(sponsor, seconds, most);
     }
 
-    public int setCap(int sponsor, int cap) {
+    public int setCap(int sponsor, int cap) throws IndexOutOfBoundsException, IllegalArgumentException {
         checkSponsor(history.latest(), sponsor);
         checkRange(cap, 1, MOST_CAP);
         Plan plan = history.beginChange();

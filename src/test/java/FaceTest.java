@@ -1,5 +1,6 @@
 import java.io.IOException;
 import java.lang.management.ManagementFactory;
+import java.lang.reflect.Constructor;
 import java.lang.reflect.Field;
 import java.lang.reflect.Method;
 import java.lang.reflect.Modifier;
@@ -11,20 +12,44 @@ import java.util.TreeSet;
 
 /** The public face, the rules of LANGUAGE.md that can be seen from outside, and the room that calls take. */
 final class FaceTest {
+    /** The methods as in the document's section "The public face", their exceptions in the order that it lists. */
     private static final String[] FACE = {
-        "int append(int,int,int,int,int)", "int load(int)", "int errorOffset()", "int breaks()", "int sponsors()",
-        "int breakOf(int,int)", "int spot(int,int,int)", "int sponsor(int,int)", "boolean isBanned(int,int)",
-        "int spotsOn(int,int)", "int reason(int,int,int)", "int price(int,int,int)", "int cheapest(int,int)",
-        "int widest(int,int)", "int income()", "int owed()", "int owedSpot(int,int)", "int arrangements(int)",
-        "int arranged(int,int)", "int book(int,int,int)", "int bookAnyhow(int,int,int)", "int remove(int,int)",
-        "int air()", "int cancel(int)", "int makeGood()", "int campaign(int,int,int)", "int setCap(int,int)",
-        "int undo()", "long checksum()"};
+        "int append(int,int,int,int,int)",
+        "int load(int) throws IllegalArgumentException",
+        "int errorOffset()",
+        "int breaks()",
+        "int sponsors()",
+        "int breakOf(int,int) throws IndexOutOfBoundsException,IllegalArgumentException",
+        "int spot(int,int,int) throws IndexOutOfBoundsException,NoSuchElementException,IllegalArgumentException",
+        "int sponsor(int,int) throws IndexOutOfBoundsException,IllegalArgumentException",
+        "boolean isBanned(int,int) throws IllegalArgumentException",
+        "int spotsOn(int,int) throws IndexOutOfBoundsException,IllegalArgumentException",
+        "int reason(int,int,int) throws IndexOutOfBoundsException,IllegalArgumentException",
+        "int price(int,int,int) throws IndexOutOfBoundsException,IllegalArgumentException",
+        "int cheapest(int,int) throws IndexOutOfBoundsException,IllegalArgumentException",
+        "int widest(int,int) throws IndexOutOfBoundsException,IllegalArgumentException",
+        "int income()",
+        "int owed()",
+        "int owedSpot(int,int) throws NoSuchElementException,IllegalArgumentException",
+        "int arrangements(int) throws IllegalArgumentException",
+        "int arranged(int,int) throws IllegalArgumentException,IndexOutOfBoundsException",
+        "int book(int,int,int) throws IndexOutOfBoundsException,IllegalArgumentException",
+        "int bookAnyhow(int,int,int) throws IndexOutOfBoundsException,IllegalArgumentException",
+        "int remove(int,int) throws IndexOutOfBoundsException,NoSuchElementException,IllegalStateException",
+        "int air() throws IllegalStateException",
+        "int cancel(int) throws IndexOutOfBoundsException,IllegalStateException",
+        "int makeGood()",
+        "int campaign(int,int,int) throws IndexOutOfBoundsException,IllegalArgumentException",
+        "int setCap(int,int) throws IndexOutOfBoundsException,IllegalArgumentException",
+        "int undo()",
+        "long checksum()"};
     private static final String[] CONSTANTS = {"SYNTAX_ERROR", "OUT_OF_RANGE", "TOO_MANY", "TOO_DEEP"};
     private static final String[] FORBIDDEN = {"->", "::", "Exact", "synchronized", "assert ", "finally", "catch",
         "static {", "java.util.*", "System.out", "Random", "Thread", "package ", "protected ", "double ", "float "};
 
     public static void main(String[] args) throws IOException {
         face();
+        faceOfDocument();
         nested();
         source();
         room();
@@ -35,11 +60,14 @@ final class FaceTest {
         Check.same("face: final", Modifier.isFinal(AdBreaks.class.getModifiers()), true);
         Check.same("face: constructors", AdBreaks.class.getDeclaredConstructors().length, 1);
         Check.same("face: public constructor", AdBreaks.class.getConstructors().length, 1);
+        for (Constructor<?> constructor : AdBreaks.class.getConstructors()) {
+            Check.same("face: " + constructor, constructor.toString().equals("public AdBreaks()"), true);
+        }
         Set<String> methods = new TreeSet<>(Arrays.asList(FACE));
         Set<String> names = new TreeSet<>();
         for (Method method : AdBreaks.class.getDeclaredMethods()) {
             if (Modifier.isPublic(method.getModifiers())) {
-                String told = method.toString().replace("public ", "").replace("AdBreaks.", "").replaceAll(" throws .*", "");
+                String told = shortForm(method);
                 Check.same("face: " + told, methods.remove(told), true);
                 names.add(method.getName());
             }
@@ -58,6 +86,31 @@ final class FaceTest {
             Check.same("final: " + field, !Modifier.isStatic(field.getModifiers()) || Modifier.isFinal(field.getModifiers()), true);
         }
         Check.same("face: missing " + constants, constants.size(), 0);
+    }
+
+    /** A method as FACE has it; reflection keeps the order of the exceptions. */
+    private static String shortForm(Method method) {
+        return method.toString().replaceFirst("public ", "").replace("AdBreaks.", "").replaceAll("java\\.(lang|util)\\.", "");
+    }
+
+    /** FACE against the document, and the document's own lines, names of parameters and all, against the program. */
+    private static void faceOfDocument() throws IOException {
+        String document = Files.readString(Path.of("../shared/DOC.md"));
+        String source = Files.readString(Path.of("src/main/java/AdBreaks.java"));
+        Set<String> methods = new TreeSet<>(Arrays.asList(FACE));
+        int from = document.indexOf("public final class AdBreaks {");
+        int to = document.indexOf("```", from);
+        for (String line : document.substring(from, to).split("\n")) {
+            if (line.startsWith("    public ")) {
+                String opened = line.contains("(") ? line.replace(";", " {") : line;
+                Check.same("face: \"" + line.trim() + "\" in the program", source.contains("\n" + opened + "\n"), true);
+            }
+            if (line.startsWith("    public ") && line.contains("(") && !line.contains(" AdBreaks(")) {
+                String told = line.replace("    public ", "").replace(";", "").replaceAll("(int) \\w+([,)])", "$1$2").replace(", ", ",");
+                Check.same("face: " + told + " in this test", methods.remove(told), true);
+            }
+        }
+        Check.same("face: not in the document " + methods, methods.size(), 0);
     }
 
     private static void nested() {
