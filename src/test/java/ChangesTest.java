@@ -20,23 +20,16 @@ final class ChangesTest {
         Check.finish("ChangesTest");
     }
 
-    private static void row(String call, AdBreaks radio, int index, int... sponsors) {
-        Check.same(call + ": spots", radio.breakOf(index, 5), sponsors.length);
-        for (int place = 0; place < sponsors.length && place < radio.breakOf(index, 5); place++) {
-            Check.same(call + ": sponsor at " + place, radio.spot(index, place, 0), sponsors[place]);
-        }
-    }
-
     private static void book() {
         AdBreaks radio = Check.loaded(FOUR);
         Check.same("21 into an empty break", radio.book(0, 10, 0), 0);
         Check.same("21 before another", radio.book(3, 12, 0), 0);
-        row("21", radio, 0, 3, 0);
+        Check.row("21", radio, 0, 3, 0);
         Check.same("21 refused by a ban", radio.book(1, 10, 0), -5);
-        row("21 nothing is booked", radio, 0, 3, 0);
+        Check.row("21 nothing is booked", radio, 0, 3, 0);
         Check.same("21 the income", radio.income(), 10 + 12);
         Check.same("21 before two others", radio.book(2, 14, 0), 0);
-        row("21", radio, 0, 2, 3, 0);
+        Check.row("21", radio, 0, 2, 3, 0);
         Check.same("21 its seconds", radio.spot(0, 0, 1), 14);
         Check.same("21 its price", radio.spot(0, 0, 2), 14);
         Check.same("21 there already", radio.book(2, 10, 0), -2);
@@ -56,15 +49,15 @@ final class ChangesTest {
         behind.book(2, 10, 0);
         behind.book(0, 10, 0);
         Check.same("21 behind all", behind.book(1, 10, 0), 2);
-        row("21", behind, 0, 0, 2, 1);
+        Check.row("21", behind, 0, 0, 2, 1);
 
         AdBreaks between = Check.loaded("radio;break 0 0 300 1;sponsor 0 9;sponsor 2 9;sponsor 2 9;sponsor 1 9;ban 0 1;");
         between.book(2, 5, 0);
         between.book(1, 5, 0);
         between.book(0, 5, 0);
-        row("21", between, 0, 0, 1, 2);
+        Check.row("21", between, 0, 0, 1, 2);
         Check.same("21 the smallest place of several", between.book(3, 5, 0), 2);
-        row("21", between, 0, 0, 1, 3, 2);
+        Check.row("21", between, 0, 0, 1, 3, 2);
     }
 
     private static void bookAnyhow() {
@@ -74,13 +67,13 @@ final class ChangesTest {
         Check.same("22 there is no arrangement", radio.bookAnyhow(1, 11, 0), -5);
         Check.same("22 like book", radio.bookAnyhow(2, 12, 0), 0);
         Check.same("22 like book", radio.bookAnyhow(3, 13, 0), 0);
-        row("22", radio, 0, 3, 2, 0);
+        Check.row("22", radio, 0, 3, 2, 0);
         radio.remove(0, 0);
         Check.same("22 in front of all", radio.book(3, 13, 0), 0);
         Check.same("22 is refused by all places", radio.reason(1, 14, 0), 5);
         int before = radio.income();
         Check.same("22 all the same", radio.bookAnyhow(1, 14, 0), 3);
-        row("22 in the order of the first arrangement", radio, 0, 0, 3, 2, 1);
+        Check.row("22 in the order of the first arrangement", radio, 0, 0, 3, 2, 1);
         int[][] spots = {{10, 10}, {13, 13 + 44}, {12, 12 + 20}, {14, 14 + 70}};
         for (int place = 0; place < 4; place++) {
             Check.same("22 seconds go with the spot", radio.spot(0, place, 1), spots[place][0]);
@@ -99,16 +92,16 @@ final class ChangesTest {
         without.book(1, 10, 0);
         without.book(3, 10, 0);
         without.book(4, 10, 0);
-        row("22", without, 0, 4, 3, 1);
+        Check.row("22", without, 0, 4, 3, 1);
         Check.same("22 without the first sponsor", without.bookAnyhow(2, 10, 0), 3);
-        row("22 without the first sponsor", without, 0, 1, 4, 3, 2);
+        Check.row("22 without the first sponsor", without, 0, 1, 4, 3, 2);
 
         // Book finds place 2 here, although an arrangement would begin with sponsor 1.
         AdBreaks kept = Check.loaded(FOUR);
         kept.book(2, 10, 0);
         kept.book(0, 10, 0);
         Check.same("22 where book would put it", kept.bookAnyhow(1, 10, 0), 2);
-        row("22 the order stays", kept, 0, 0, 2, 1);
+        Check.row("22 the order stays", kept, 0, 0, 2, 1);
     }
 
     private static void remove() {
@@ -116,16 +109,16 @@ final class ChangesTest {
         radio.book(0, 10, 0);
         radio.book(2, 10, 0);
         radio.book(1, 11, 0);
-        row("23", radio, 0, 1, 2, 0);
+        Check.row("23", radio, 0, 1, 2, 0);
         int income = radio.income();
         Check.badState("23 a ban would be broken", () -> radio.remove(0, 1));
-        row("23", radio, 0, 1, 2, 0);
+        Check.row("23", radio, 0, 1, 2, 0);
         Check.same("23 the quotient of half of 15", radio.remove(0, 2), 7);
-        row("23 behind", radio, 0, 1, 2);
+        Check.row("23 behind", radio, 0, 1, 2);
         Check.same("23 the refund", radio.income(), income - 7);
         Check.same("23 at the end there is nothing to break", radio.remove(0, 1), 7);
         Check.same("23 the last one", radio.remove(0, 0), 8);
-        row("23 none are left", radio, 0);
+        Check.row("23 none are left", radio, 0);
         Check.same("23 the seconds are free again", radio.reason(0, 60, 0), 0);
         Check.same("23 half of the income stays", radio.income(), income - 22);
         Check.outOfBounds("23 break 2", () -> radio.remove(2, 0));
@@ -147,10 +140,10 @@ final class ChangesTest {
         beside.book(2, 10, 0);
         beside.book(1, 10, 0);
         beside.book(0, 10, 0);
-        row("23", beside, 0, 0, 1, 2, 4, 3);
+        Check.row("23", beside, 0, 0, 1, 2, 4, 3);
         beside.remove(0, 1);
         beside.remove(0, 1);
-        row("23", beside, 0, 0, 4, 3);
+        Check.row("23", beside, 0, 0, 4, 3);
         Check.badState("23 the spots beside it", () -> beside.remove(0, 1));
 
         AdBreaks next = Check.loaded("radio;break 0 0 300 15;sponsor 0 9;sponsor 2 9;sponsor 3 9;sponsor 0 9;ban 0 0;");
@@ -158,16 +151,16 @@ final class ChangesTest {
         next.book(1, 10, 0);
         next.book(2, 10, 0);
         next.book(3, 10, 0);
-        row("23", next, 0, 3, 2, 1, 0);
+        Check.row("23", next, 0, 3, 2, 1, 0);
         Check.same("23 only the spots beside it count", next.remove(0, 1), 7);
-        row("23", next, 0, 3, 1, 0);
+        Check.row("23", next, 0, 3, 1, 0);
 
         AdBreaks free = Check.loaded("radio;break 0 0 100 15;sponsor 0 9;sponsor 1 9;sponsor 2 9;ban 0 0;");
         free.book(0, 10, 0);
         free.book(1, 20, 0);
         free.book(2, 30, 0);
         Check.same("23 between two that may follow each other", free.remove(0, 1), 15);
-        row("23", free, 0, 2, 0);
+        Check.row("23", free, 0, 2, 0);
     }
 
     private static void air() {
@@ -179,7 +172,7 @@ final class ChangesTest {
         Check.same("24 aired", radio.breakOf(0, 4), 1);
         Check.same("24 the next is open", radio.breakOf(1, 4), 0);
         Check.same("24 the number of its spots", radio.air(), 2);
-        row("24 they stay", radio, 1, 3, 0);
+        Check.row("24 they stay", radio, 1, 3, 0);
         Check.same("24 not a cancelled one", radio.air(), 0);
         Check.same("24 cancelled stays cancelled", radio.breakOf(2, 4), 2);
         Check.same("24 the one behind it", radio.breakOf(3, 4), 1);
@@ -202,7 +195,7 @@ final class ChangesTest {
         Check.same("25 without spots", radio.cancel(2), 3);
         Check.same("25 the prices stay in the income", radio.income(), income);
         Check.same("25 cancelled", radio.breakOf(0, 4), 2);
-        row("25 no spots", radio, 0);
+        Check.row("25 no spots", radio, 0);
         Check.badState("25 cancelled already", () -> radio.cancel(0));
         Check.outOfBounds("25 break 4", () -> radio.cancel(4));
         Check.outOfBounds("25 break -1", () -> radio.cancel(-1));
@@ -220,9 +213,9 @@ final class ChangesTest {
         int income = radio.income();
         Check.same("26 one", radio.makeGood(), 1);
         Check.same("26 no longer owed", radio.owed(), 0);
-        row("26 not into one with a smaller audience", radio, 1);
-        row("26 not into one that refuses it", radio, 2, 1);
-        row("26 into the earliest", radio, 3, 0);
+        Check.row("26 not into one with a smaller audience", radio, 1);
+        Check.row("26 not into one that refuses it", radio, 2, 1);
+        Check.row("26 into the earliest", radio, 3, 0);
         Check.same("26 its seconds", radio.spot(3, 0, 1), 31);
         Check.same("26 the price that it has", radio.spot(3, 0, 2), 62);
         Check.same("26 the income stays", radio.income(), income);
@@ -235,7 +228,7 @@ final class ChangesTest {
         equal.book(0, 10, 1);
         equal.cancel(1);
         Check.same("26 an equal audience, and an earlier break", equal.makeGood(), 1);
-        row("26", equal, 0, 0);
+        Check.row("26", equal, 0, 0);
         AdBreaks aired = Check.loaded("radio;break 0 0 60 20;break 0 5 60 20;sponsor 0 1;");
         aired.book(0, 10, 1);
         aired.air();
@@ -252,8 +245,8 @@ final class ChangesTest {
         radio.book(3, 10, 1);
         radio.cancel(0);
         Check.same("26 two of three", radio.makeGood(), 2);
-        row("26 the first one into the earliest that has the seconds", radio, 1, 1, 3);
-        row("26 refused by a ban in the earlier one", radio, 2, 2);
+        Check.row("26 the first one into the earliest that has the seconds", radio, 1, 1, 3);
+        Check.row("26 refused by a ban in the earlier one", radio, 2, 2);
         Check.same("26 the other stays", radio.owedSpot(0, 0), 0);
 
         AdBreaks order = Check.loaded("radio;break 0 0 90 5;break 1 0 30 5;sponsor 0 9;sponsor 1 9;sponsor 2 9;sponsor 3 9;");
@@ -263,7 +256,7 @@ final class ChangesTest {
         order.book(3, 10, 0);
         order.cancel(0);
         Check.same("26 in their order", order.makeGood(), 2);
-        row("26", order, 1, 2, 3);
+        Check.row("26", order, 1, 2, 3);
         Check.same("26 the others stay in their order", order.owedSpot(0, 0), 1);
         Check.same("26 the others stay in their order", order.owedSpot(1, 0), 0);
 
@@ -274,7 +267,7 @@ final class ChangesTest {
         later.cancel(0);
         later.cancel(1);
         Check.same("26 one behind others that stay", later.makeGood(), 1);
-        row("26 one behind others that stay", later, 2, 0);
+        Check.row("26 one behind others that stay", later, 2, 0);
         Check.same("26 those stay", later.owed(), 2);
         Check.same("26 those stay", later.owedSpot(0, 0), 1);
         Check.same("26 with their least audience", later.owedSpot(0, 3), 7);
@@ -294,11 +287,11 @@ final class ChangesTest {
     private static void campaign() {
         AdBreaks radio = Check.loaded("radio;break 0 1 60 5;break 0 2 60 3;break 1 1 60 4;sponsor 0 1;sponsor 0 9;");
         Check.same("27 until it tells none", radio.campaign(0, 10, 20), 2);
-        row("27 the cheaper one of the day", radio, 1, 0);
+        Check.row("27 the cheaper one of the day", radio, 1, 0);
         Check.same("27 income", radio.income(), 7);
         Check.same("27 at most a number of times", radio.campaign(1, 10, 2), 2);
-        row("27 before the others", radio, 1, 1, 0);
-        row("27 not the dearest", radio, 0);
+        Check.row("27 before the others", radio, 1, 1, 0);
+        Check.row("27 not the dearest", radio, 0);
         Check.same("27 the one that is left", radio.campaign(1, 10, 2), 1);
         Check.same("27 none is left", radio.campaign(1, 10, 2), 0);
         Check.same("27 it is one change", radio.undo(), 4);
@@ -315,8 +308,8 @@ final class ChangesTest {
         // The first spot makes the break at hour 1 dearer than the one at hour 0.
         AdBreaks later = Check.loaded("radio;price audience+spots*hour*10;break 0 1 60 1;break 1 1 60 2;break 2 0 60 9;sponsor 0 9;");
         Check.same("27 the prices of then", later.campaign(0, 10, 2), 2);
-        row("27", later, 0, 0);
-        row("27", later, 2, 0);
+        Check.row("27", later, 0, 0);
+        Check.row("27", later, 2, 0);
         Check.same("27 the prices of then", later.income(), 10);
         Check.same("27 all the breaks", Check.loaded("radio;break 0 1 60 1;break 1 1 60 2;sponsor 0 1;").campaign(0, 60, 20), 2);
     }

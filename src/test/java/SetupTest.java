@@ -134,98 +134,85 @@ final class SetupTest {
     }
 
     private static void tokens() {
-        good("radio;", 0);
-        good("  radio  ;  ", 0);
-        good("radio;break0 1 20 3;", 1);
-        good("radio;break 0 1 20 3;ban1 2;sponsor 1 2;price2;", 1);
-        good("radio;price(2)*audience/(hour);", 0);
-        good("radio;break 0000 001 0000000000000000000000020 000999;", 1);
-        good("radio;price 1+2-3*4/5+audience-hour*seconds/used+spots;", 0);
-        good("radio;price ( ( ( ( 1 ) ) ) ) + ( ( ( ( 2 ) ) ) ) ;", 0);
-        good("radio;sponsor 9 9;ban 0 9;break 6 23 300 999;ban 9 0;price 9999;break 0 0 10 0;", 2);
-        good("radio;break 0 5 10 0;break 5 0 10 0;break 0 4 10 0;", 3);
-    }
-
-    private static void good(String text, int breaks) {
-        AdBreaks radio = new AdBreaks();
-        Check.same("3 load \"" + text + "\"", Check.load(radio, text), breaks);
-        Check.same("4 errorOffset after \"" + text + "\"", radio.errorOffset(), -1);
-    }
-
-    private static void bad(String text, int code, int offset) {
-        AdBreaks radio = new AdBreaks();
-        Check.same("3 load \"" + text + "\"", Check.load(radio, text), code);
-        Check.same("4 errorOffset after \"" + text + "\"", radio.errorOffset(), offset);
-        Check.same("3 data after \"" + text + "\"", radio.breaks() + radio.sponsors() + radio.checksum(), 0);
+        Check.good("radio;", 0);
+        Check.good("  radio  ;  ", 0);
+        Check.good("radio;break0 1 20 3;", 1);
+        Check.good("radio;break 0 1 20 3;ban1 2;sponsor 1 2;price2;", 1);
+        Check.good("radio;price(2)*audience/(hour);", 0);
+        Check.good("radio;break 0000 001 0000000000000000000000020 000999;", 1);
+        Check.good("radio;price 1+2-3*4/5+audience-hour*seconds/used+spots;", 0);
+        Check.good("radio;price ( ( ( ( 1 ) ) ) ) + ( ( ( ( 2 ) ) ) ) ;", 0);
+        Check.good("radio;sponsor 9 9;ban 0 9;break 6 23 300 999;ban 9 0;price 9999;break 0 0 10 0;", 2);
+        Check.good("radio;break 0 5 10 0;break 5 0 10 0;break 0 4 10 0;", 3);
     }
 
     private static void syntaxErrors() {
-        bad("", SYNTAX, 0);
-        bad("   ", SYNTAX, 3);
-        bad("radio", SYNTAX, 5);
-        bad("radio  ", SYNTAX, 7);
-        bad("radioradio;", SYNTAX, 0);
-        bad("Radio;", SYNTAX, 0);
-        bad("xadio;", SYNTAX, 0);
-        bad("radioz;", SYNTAX, 0);
-        bad("rad io;", SYNTAX, 0);
-        bad(" radios;", SYNTAX, 1);
-        bad("radio;;", SYNTAX, 6);
-        bad("radio;\n", SYNTAX, 6);
-        bad("radio\t;", SYNTAX, 5);
-        bad("radio;\u00ff", SYNTAX, 6);
-        bad("radio;\u00f2adio;", SYNTAX, 6);
-        bad("radio;break", SYNTAX, 11);
-        bad("radio;breaks 0 0 10 0;", SYNTAX, 6);
-        bad("radio;radio;", SYNTAX, 6);
-        bad("radio;7;", SYNTAX, 6);
-        bad("radio;break 0 0 10;", SYNTAX, 18);
-        bad("radio;break 0 0 10 0", SYNTAX, 20);
-        bad("radio;break 0 0 10 0 5;", SYNTAX, 21);
-        bad("radio;break 0,0 10 0;", SYNTAX, 13);
-        bad("radio;break -1 0 10 0;", SYNTAX, 12);
-        bad("radio;break 0x 0 10 0;", SYNTAX, 13);
-        bad("radio;sponsor 1;", SYNTAX, 15);
-        bad("radio;sponsor 1 1 1;", SYNTAX, 18);
-        bad("radio;ban 1;", SYNTAX, 11);
-        bad("radio;ban 1 one;", SYNTAX, 12);
-        bad("radio;price;", SYNTAX, 11);
-        bad("radio;price -1;", SYNTAX, 12);
-        bad("radio;price 1+;", SYNTAX, 14);
-        bad("radio;price 1 2;", SYNTAX, 14);
-        bad("radio;price 1(2);", SYNTAX, 13);
-        bad("radio;price ();", SYNTAX, 13);
-        bad("radio;price (1;", SYNTAX, 14);
-        bad("radio;price 1);", SYNTAX, 13);
-        bad("radio;price (1", SYNTAX, 14);
-        bad("radio;price 1*/2;", SYNTAX, 14);
-        bad("radio;price 1%2;", SYNTAX, 13);
-        bad("radio;price hours;", SYNTAX, 12);
-        bad("radio;price audience hour;", SYNTAX, 21);
-        bad("radio;price day;", SYNTAX, 12);
-        bad("radio;price 1;break 0 0 10 0;price 1;", SYNTAX, 29);
-        bad("radio;price 1;pricex", SYNTAX, 14);
+        Check.bad("", SYNTAX, 0);
+        Check.bad("   ", SYNTAX, 3);
+        Check.bad("radio", SYNTAX, 5);
+        Check.bad("radio  ", SYNTAX, 7);
+        Check.bad("radioradio;", SYNTAX, 0);
+        Check.bad("Radio;", SYNTAX, 0);
+        Check.bad("xadio;", SYNTAX, 0);
+        Check.bad("radioz;", SYNTAX, 0);
+        Check.bad("rad io;", SYNTAX, 0);
+        Check.bad(" radios;", SYNTAX, 1);
+        Check.bad("radio;;", SYNTAX, 6);
+        Check.bad("radio;\n", SYNTAX, 6);
+        Check.bad("radio\t;", SYNTAX, 5);
+        Check.bad("radio;\u00ff", SYNTAX, 6);
+        Check.bad("radio;\u00f2adio;", SYNTAX, 6);
+        Check.bad("radio;break", SYNTAX, 11);
+        Check.bad("radio;breaks 0 0 10 0;", SYNTAX, 6);
+        Check.bad("radio;radio;", SYNTAX, 6);
+        Check.bad("radio;7;", SYNTAX, 6);
+        Check.bad("radio;break 0 0 10;", SYNTAX, 18);
+        Check.bad("radio;break 0 0 10 0", SYNTAX, 20);
+        Check.bad("radio;break 0 0 10 0 5;", SYNTAX, 21);
+        Check.bad("radio;break 0,0 10 0;", SYNTAX, 13);
+        Check.bad("radio;break -1 0 10 0;", SYNTAX, 12);
+        Check.bad("radio;break 0x 0 10 0;", SYNTAX, 13);
+        Check.bad("radio;sponsor 1;", SYNTAX, 15);
+        Check.bad("radio;sponsor 1 1 1;", SYNTAX, 18);
+        Check.bad("radio;ban 1;", SYNTAX, 11);
+        Check.bad("radio;ban 1 one;", SYNTAX, 12);
+        Check.bad("radio;price;", SYNTAX, 11);
+        Check.bad("radio;price -1;", SYNTAX, 12);
+        Check.bad("radio;price 1+;", SYNTAX, 14);
+        Check.bad("radio;price 1 2;", SYNTAX, 14);
+        Check.bad("radio;price 1(2);", SYNTAX, 13);
+        Check.bad("radio;price ();", SYNTAX, 13);
+        Check.bad("radio;price (1;", SYNTAX, 14);
+        Check.bad("radio;price 1);", SYNTAX, 13);
+        Check.bad("radio;price (1", SYNTAX, 14);
+        Check.bad("radio;price 1*/2;", SYNTAX, 14);
+        Check.bad("radio;price 1%2;", SYNTAX, 13);
+        Check.bad("radio;price hours;", SYNTAX, 12);
+        Check.bad("radio;price audience hour;", SYNTAX, 21);
+        Check.bad("radio;price day;", SYNTAX, 12);
+        Check.bad("radio;price 1;break 0 0 10 0;price 1;", SYNTAX, 29);
+        Check.bad("radio;price 1;pricex", SYNTAX, 14);
     }
 
     private static void rangeErrors() {
-        bad("radio;break 7 0 10 0;", RANGE, 12);
-        bad("radio;break 0 24 10 0;", RANGE, 14);
-        bad("radio;break 0 0 9 0;", RANGE, 16);
-        bad("radio;break 0 0 301 0;", RANGE, 16);
-        bad("radio;break 0 0 10 1000;", RANGE, 19);
-        bad("radio;break  007 0 10 0;", RANGE, 13);
-        bad("radio;break 4294967296 0 10 0;", RANGE, 12);
-        bad("radio;break 18446744073709551616000 0 10 0;", RANGE, 12);
-        bad("radio;break 0 0 4294967306 0;", RANGE, 16);
-        bad("radio;break 2 5 10 0;break 1 5 10 0;break 2 05 9 0;", RANGE, 44);
-        bad("radio;break 2 5 10 0;break 2 5", RANGE, 29);
-        bad("radio;sponsor 10 1;", RANGE, 14);
-        bad("radio;sponsor 0 0;", RANGE, 16);
-        bad("radio;sponsor 0 10;", RANGE, 16);
-        bad("radio;ban 10 0;", RANGE, 10);
-        bad("radio;ban 0 10;", RANGE, 12);
-        bad("radio;price 10000;", RANGE, 12);
-        bad("radio;price 1+99999999999999999999;", RANGE, 14);
+        Check.bad("radio;break 7 0 10 0;", RANGE, 12);
+        Check.bad("radio;break 0 24 10 0;", RANGE, 14);
+        Check.bad("radio;break 0 0 9 0;", RANGE, 16);
+        Check.bad("radio;break 0 0 301 0;", RANGE, 16);
+        Check.bad("radio;break 0 0 10 1000;", RANGE, 19);
+        Check.bad("radio;break  007 0 10 0;", RANGE, 13);
+        Check.bad("radio;break 4294967296 0 10 0;", RANGE, 12);
+        Check.bad("radio;break 18446744073709551616000 0 10 0;", RANGE, 12);
+        Check.bad("radio;break 0 0 4294967306 0;", RANGE, 16);
+        Check.bad("radio;break 2 5 10 0;break 1 5 10 0;break 2 05 9 0;", RANGE, 44);
+        Check.bad("radio;break 2 5 10 0;break 2 5", RANGE, 29);
+        Check.bad("radio;sponsor 10 1;", RANGE, 14);
+        Check.bad("radio;sponsor 0 0;", RANGE, 16);
+        Check.bad("radio;sponsor 0 10;", RANGE, 16);
+        Check.bad("radio;ban 10 0;", RANGE, 10);
+        Check.bad("radio;ban 0 10;", RANGE, 12);
+        Check.bad("radio;price 10000;", RANGE, 12);
+        Check.bad("radio;price 1+99999999999999999999;", RANGE, 14);
     }
 
     private static void tooMany() {
@@ -233,20 +220,20 @@ final class SetupTest {
         for (int hour = 0; hour < 20; hour++) {
             breaks.append("break 0 ").append(hour).append(" 10 0;");
         }
-        good(breaks.toString(), 20);
-        bad(breaks + " break 9", MANY, breaks.length() + 1);
-        bad(breaks + "break 0 0 10 0;", MANY, breaks.length());
-        bad(breaks + "breaks", SYNTAX, breaks.length());
+        Check.good(breaks.toString(), 20);
+        Check.bad(breaks + " break 9", MANY, breaks.length() + 1);
+        Check.bad(breaks + "break 0 0 10 0;", MANY, breaks.length());
+        Check.bad(breaks + "breaks", SYNTAX, breaks.length());
 
         String sponsors = "radio;" + "sponsor 0 1;".repeat(8);
-        good(sponsors, 0);
-        bad(sponsors + "sponsor", MANY, sponsors.length());
-        bad(sponsors + " sponsor 0 1;", MANY, sponsors.length() + 1);
+        Check.good(sponsors, 0);
+        Check.bad(sponsors + "sponsor", MANY, sponsors.length());
+        Check.bad(sponsors + " sponsor 0 1;", MANY, sponsors.length() + 1);
 
         String bans = "radio;" + "ban 1 2;".repeat(5) + "ban 2 1;".repeat(5);
-        good(bans, 0);
-        bad(bans + "ban 1 2;", MANY, bans.length());
-        bad(bans + "ban x", MANY, bans.length());
+        Check.good(bans, 0);
+        Check.bad(bans + "ban 1 2;", MANY, bans.length());
+        Check.bad(bans + "ban x", MANY, bans.length());
 
         AdBreaks again = Check.loaded(bans);
         Check.same("3 the numbers start again with each load", Check.load(again, bans), 0);
@@ -255,18 +242,18 @@ final class SetupTest {
     }
 
     private static void tooDeep() {
-        bad("radio;price (((((1)))));", DEEP, 16);
-        bad("radio;price 1+((((2*(", DEEP, 20);
-        bad("radio;price ((((1(", SYNTAX, 17);
-        bad("radio;price ((((1))))(", SYNTAX, 21);
-        good("radio;price ((((1))+((2))));", 0);
+        Check.bad("radio;price (((((1)))));", DEEP, 16);
+        Check.bad("radio;price 1+((((2*(", DEEP, 20);
+        Check.bad("radio;price ((((1(", SYNTAX, 17);
+        Check.bad("radio;price ((((1))))(", SYNTAX, 21);
+        Check.good("radio;price ((((1))+((2))));", 0);
     }
 
     private static void firstError() {
-        bad("radio;break 7 x", RANGE, 12);
-        bad("radio;break x 24 9", SYNTAX, 12);
-        bad("radio;break 0 24 9 1000;x", RANGE, 14);
-        bad("radio;price 10000+(((((", RANGE, 12);
-        bad("radio;price (((((10000", DEEP, 16);
+        Check.bad("radio;break 7 x", RANGE, 12);
+        Check.bad("radio;break x 24 9", SYNTAX, 12);
+        Check.bad("radio;break 0 24 9 1000;x", RANGE, 14);
+        Check.bad("radio;price 10000+(((((", RANGE, 12);
+        Check.bad("radio;price (((((10000", DEEP, 16);
     }
 }
